@@ -1,4 +1,5 @@
 import java.util.ArrayList;
+import java.util.Arrays;
 import java.util.List;
 
 /**
@@ -119,6 +120,9 @@ public final class RandomRuns {
         Worked acts = plain.runActs();
         Worked read = new Reader(plain).runTexts();
         due(run, "texts read back: result", read.result(), acts.result());
+        due(run, "texts read back: left", read.pile, acts.pile);
+        due(run, "texts read back: variables", Arrays.toString(read.variables),
+                Arrays.toString(acts.variables));
         compareSide(run, x, 0, acts);
         compareSide(run, x, 1, read);
     }
