@@ -1,6 +1,7 @@
 import java.util.ArrayList;
 import java.util.Arrays;
 import java.util.List;
+import java.util.function.Consumer;
 
 /**
  * Many runs of calls, right and wrong ones mixed (the same ones each time), against a second
@@ -10,41 +11,43 @@ import java.util.List;
 public final class RandomRuns {
     private static final int RUNS = 6000;
     private static final int LONGEST = 130;
+    private static final int MOST_WRONG = 20;
     private static final String OPS = "+-*&|^/%";
     private static final int[] RANKS = {3, 3, 4, 2, 0, 1, 4, 4};
 
+    /* No object is used for more calls, as the document does not say what those would answer. */
+    private static final int MOST_CALLS = 512;
+    private static final int CALLS_OF_BOTH_RUNS = 2 * (2 + 10 + 22);
+
     private static long seed = 20261115;
-    private static int wrong = 0;
 
     public static void main(String[] args) {
-        for (int run = 0; run < RUNS && wrong < 20; run++) {
-            oneRun(run);
+        for (int run = 0; run < RUNS && Check.wrong() < MOST_WRONG; run++) {
+            Check.about("run " + run + ": ");
+            oneRun();
         }
-        System.out.println(wrong == 0 ? "all runs agree" : wrong + " answers are not as due");
-        if (wrong != 0) {
-            System.exit(1);
-        }
+        Check.end("all runs agree");
     }
 
-    private static void oneRun(int run) {
-        TermPile x = new TermPile();
+    private static void oneRun() {
+        Pile x = new Pile();
         Plain plain = new Plain();
         int calls = 1 + below(LONGEST);
         int favoured = below(3) == 0 ? below(11) : -1;
         for (int call = 0; call < calls; call++) {
-            tellBoth(run, x, plain, favoured);
+            tellBoth(x, plain, favoured);
             if (below(12) == 0) {
-                giveBoth(run, x, plain);
+                giveBoth(x, plain);
             }
             if (below(40) == 0) {
-                compareRuns(run, x, plain);
+                compareRuns(x, plain);
             }
         }
-        compareTexts(run, x, plain);
-        compareRuns(run, x, plain);
+        compareTexts(x, plain);
+        compareRuns(x, plain);
     }
 
-    private static void tellBoth(int run, TermPile x, Plain plain, int favoured) {
+    private static void tellBoth(Pile x, Plain plain, int favoured) {
         int kind = favoured >= 0 && below(2) == 0 ? favoured : below(8) < 3 ? below(2) : below(11);
         int n = numberFor(kind);
         if (below(25) == 0) {
@@ -52,13 +55,7 @@ public final class RandomRuns {
             n = below(2) == 0 ? below(3000) - 200 : below(12) - 1;
         }
         String due = plain.tell(kind, n);
-        String got;
-        try {
-            got = String.valueOf(x.act(kind, n));
-        } catch (RuntimeException e) {
-            got = e.getClass().getSimpleName();
-        }
-        due(run, "act(" + kind + ", " + n + ")", got, due);
+        Check.due("act(" + kind + ", " + n + ")", x.act(kind, n), due);
     }
 
     private static int numberFor(int kind) {
@@ -79,36 +76,37 @@ public final class RandomRuns {
         }
     }
 
-    private static void giveBoth(int run, TermPile x, Plain plain) {
+    private static void giveBoth(Pile x, Plain plain) {
         int variable = below(12) - 1;
         long[] edges = {Long.MIN_VALUE, Long.MAX_VALUE, -1, 0, 1, below(1000) * 7919L * 104729L * 1299709L};
         long v = edges[below(edges.length)];
         boolean due = variable >= 0 && variable <= 9;
-        due(run, "give(" + variable + ")", x.give(variable, v), due);
+        Check.due("give(" + variable + ")", x.give(variable, v), due);
         if (due) {
             plain.given[variable] = v;
         }
     }
 
-    private static void compareTexts(int run, TermPile x, Plain plain) {
-        due(run, "count(0)", x.count(0), plain.acts.size());
-        due(run, "count(1)", x.count(1), plain.lines.size());
-        due(run, "count(2)", x.count(2), plain.temporaries);
-        due(run, "count(3)", x.count(3), plain.pile.size());
+    private static void compareTexts(Pile x, Plain plain) {
+        TermPile pile = x.forCalls(4);
+        Check.due("count(0)", pile.count(0), plain.acts.size());
+        Check.due("count(1)", pile.count(1), plain.lines.size());
+        Check.due("count(2)", pile.count(2), plain.temporaries);
+        Check.due("count(3)", pile.count(3), plain.pile.size());
         for (int k = 0; k <= plain.lines.size(); k++) {
             String due = k < plain.lines.size() ? plain.lines.get(k) : "";
-            due(run, "line " + k, text(x, true, k, due.length()), due);
+            Check.due("line " + k, text(x, true, k, due.length()), due);
         }
         for (int k = 0; k <= plain.pile.size(); k++) {
             String due = k < plain.pile.size() ? plain.pile.get(k).text : "";
-            due(run, "term " + k, text(x, false, k, due.length()), due);
+            Check.due("term " + k, text(x, false, k, due.length()), due);
         }
     }
 
-    private static String text(TermPile x, boolean line, int k, int length) {
+    private static String text(Pile x, boolean line, int k, int length) {
         StringBuilder text = new StringBuilder();
         for (int i = -1; i <= length; i++) {
-            int sign = line ? x.line(k, i) : x.term(k, i);
+            int sign = line ? x.forCalls(1).line(k, i) : x.forCalls(1).term(k, i);
             if (sign != TermPile.NONE) {
                 text.append((char) sign);
             }
@@ -116,46 +114,72 @@ public final class RandomRuns {
         return text.toString();
     }
 
-    private static void compareRuns(int run, TermPile x, Plain plain) {
+    private static void compareRuns(Pile x, Plain plain) {
         Worked acts = plain.runActs();
         Worked read = new Reader(plain).runTexts();
-        due(run, "texts read back: result", read.result(), acts.result());
-        due(run, "texts read back: left", read.pile, acts.pile);
-        due(run, "texts read back: variables", Arrays.toString(read.variables),
+        Check.due("texts read back: result", read.result(), acts.result());
+        Check.due("texts read back: left", read.pile, acts.pile);
+        Check.due("texts read back: variables", Arrays.toString(read.variables),
                 Arrays.toString(acts.variables));
-        compareSide(run, x, 0, acts);
-        compareSide(run, x, 1, read);
+        TermPile pile = x.forCalls(CALLS_OF_BOTH_RUNS);
+        compareSide(pile, 0, acts);
+        compareSide(pile, 1, read);
     }
 
-    private static void compareSide(int run, TermPile x, int side, Worked due) {
-        due(run, "run(" + side + ")", x.run(side), due.result());
-        due(run, "calls of side " + side, x.count(4 + side), due.calls);
+    private static void compareSide(TermPile x, int side, Worked due) {
+        Check.due("run(" + side + ")", x.run(side), due.result());
+        Check.due("calls of side " + side, x.count(4 + side), due.calls);
         for (int v = 0; v <= 9; v++) {
-            due(run, "value(" + side + ", " + v + ")", x.value(side, v), due.variables[v]);
+            Check.due("value(" + side + ", " + v + ")", x.value(side, v), due.variables[v]);
         }
         for (int k = -1; k <= due.pile.size(); k++) {
-            String got;
-            try {
-                got = String.valueOf(x.left(side, k));
-            } catch (RuntimeException e) {
-                got = e.getClass().getSimpleName();
-            }
+            int place = k;
             boolean there = k >= 0 && k < due.pile.size();
-            due(run, "left(" + side + ", " + k + ")", got,
-                    there ? due.pile.get(k) : "IndexOutOfBoundsException");
+            Check.due("left(" + side + ", " + k + ")", answer(() -> x.left(side, place)),
+                    there ? due.pile.get(k) : Check.INDEX);
         }
     }
 
-    private static void due(int run, String what, Object got, Object want) {
-        if (!String.valueOf(got).equals(String.valueOf(want))) {
-            wrong++;
-            System.out.println("run " + run + ": " + what + " answered " + got + ", due is " + want);
+    private static String answer(Check.Call call) {
+        try {
+            return String.valueOf(call.answer());
+        } catch (RuntimeException e) {
+            return e.getClass().getSimpleName();
         }
     }
 
     private static int below(int bound) {
         seed = seed * 6364136223846793005L + 1442695040888963407L;
         return (int) ((seed >>> 33) % bound);
+    }
+
+    /** A TermPile that is made anew, and told and given the same, ahead of its last calls. */
+    private static final class Pile {
+        private final List<Consumer<TermPile>> changes = new ArrayList<>();
+        private TermPile x = new TermPile();
+        private int calls = 0;
+
+        String act(int kind, int n) {
+            String answer = answer(() -> forCalls(1).act(kind, n));
+            changes.add(again -> answer(() -> again.act(kind, n)));
+            return answer;
+        }
+
+        boolean give(int variable, long v) {
+            boolean answer = forCalls(1).give(variable, v);
+            changes.add(again -> again.give(variable, v));
+            return answer;
+        }
+
+        TermPile forCalls(int more) {
+            if (calls + more > MOST_CALLS) {
+                x = new TermPile();
+                changes.forEach(change -> change.accept(x));
+                calls = changes.size();
+            }
+            calls += more;
+            return x;
+        }
     }
 
     /** What a run leaves. */
