@@ -114,6 +114,7 @@ public final class PromiseTests {
 
     private static void howManyActs() {
         TermPile x = new TermPile();
+        Check.dueRefused(x, 6, 0, Check.STATE);
         String acts = "0 1 1 0 4 0 5 0 7 0 8 0 9 0 10 2 2 0 3 0 6 0";
         String[] words = acts.split(" ");
         for (int at = 0; at < words.length; at += 2) {
@@ -511,6 +512,11 @@ public final class PromiseTests {
         behind.run(0);
         behind.run(1);
         for (TermPile x : new TermPile[] {ahead, behind}) {
+            for (int v = 0; v <= 9; v++) {
+                int right = v;
+                Check.dueThrown("value 0 of variable " + v, () -> x.value(0, right), Check.NOTHING);
+                Check.dueThrown("value 1 of variable " + v, () -> x.value(1, right), Check.NOTHING);
+            }
             for (int side : Check.WRONG_SIDES) {
                 Check.dueThrown("value of side " + side, () -> x.value(side, 0), Check.INDEX);
                 Check.dueThrown("value of side " + side, () -> x.value(side, 10), Check.INDEX);
@@ -525,14 +531,16 @@ public final class PromiseTests {
     // ---- promise 8
 
     private static void leftBehindTheLatestRun() {
-        TermPile x = Check.told("0 4 1 0");
+        TermPile x = Check.told("3 128 0 4 1 0");
         x.give(0, 5);
         x.run(0);
         x.run(1);
         x.give(0, 6);
         x.act(4, 0);
+        Check.due("a sign of the term", x.term(0, 0), '4');
+        Check.due("a sign of the line", x.line(0, 0), 'a');
         for (int side = 0; side <= 1; side++) {
-            Check.due("neither give nor act changes it", Check.leftOf(x, side), "[4, 5]");
+            Check.due("no call but run changes it", Check.leftOf(x, side), "[4, 5]");
         }
         x.run(1);
         Check.due("the latest run of the lines", Check.leftOf(x, 1), "[10]");
@@ -601,6 +609,10 @@ public final class PromiseTests {
             x.give(0, 1);
             x.run(side);
             Check.due("no failure any more", Check.leftOf(x, side), "[4, 5, 0, 6]");
+            TermPile early = Check.told("0 1 1 0 4 7 2 1 0 4 0 5");
+            Check.due("a failure ahead of all that lies there", early.run(side), 1);
+            dueNone(early, side, 0);
+            dueNone(early, side, 1);
         }
     }
 

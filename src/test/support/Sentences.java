@@ -59,6 +59,6 @@ final class Sentences {
         int end = document.indexOf("\n## ", start);
         String words = document.substring(start, end < 0 ? document.length() : end);
         words = words.trim().replaceAll("\\s+", " ");
-        return words.startsWith("`") ? words.substring(words.indexOf("`: ") + 3) : words;
+        return section.startsWith("Promise ") ? words.substring(words.indexOf("`: ") + 3) : words;
     }
 }
