@@ -55,8 +55,8 @@ public final class TermPile {
     private static final int[] MOST_NUMBER = {127, 9, 9, 2559, 7, 0, 0, 0, 0, 0, 3};
 
     private final Code acts;
-    private final Lines lines;
     private final Terms terms;
+    private final Lines lines;
     private final long[] given;
     private final Machine actsMachine;
     private final Machine linesMachine;
@@ -64,8 +64,8 @@ public final class TermPile {
 
     public TermPile() {
         acts = new Code();
-        lines = new Lines();
-        terms = new Terms(lines);
+        terms = new Terms();
+        lines = terms.lines;
         given = new long[VARIABLES];
         actsMachine = new Machine();
         linesMachine = new Machine();
@@ -267,17 +267,13 @@ public final class TermPile {
         }
     }
 
-    /** The pile of terms: their cells one behind the other, from below. */
+    /** The pile of terms: their cells one behind the other, from below, and the lines they make. */
     private static final class Terms {
-        private final Lines lines;
+        private final Lines lines = new Lines();
         private final Code code = new Code();
         private final int[] starts = new int[MOST_ON_PILE];
         private int size = 0;
         private int temporaries = 0;
-
-        Terms(Lines lines) {
-            this.lines = lines;
-        }
 
         void tell(int kind, int n) {
             switch (kind) {

@@ -1,6 +1,3 @@
-import java.io.IOException;
-import java.nio.file.Files;
-import java.nio.file.Path;
 import java.util.ArrayList;
 import java.util.List;
 
@@ -9,8 +6,6 @@ import java.util.List;
  * one behind the other, must be the section: none is without a test, and none is made up.
  */
 final class Sentences {
-    private static final Path DOCUMENT = Path.of("..", "shared", "DOC.md");
-
     private static final List<String> quoted = new ArrayList<>();
     private static String section = "";
 
@@ -43,22 +38,10 @@ final class Sentences {
         quoted.clear();
     }
 
-    /** A section's words, each blank or line's end one blank, without a promise's signature. */
+    /** A section's words without a promise's signature. */
     private static String inDocument() {
-        String document;
-        try {
-            document = Files.readString(DOCUMENT);
-        } catch (IOException e) {
-            return "in " + DOCUMENT + ", which can't be read";
-        }
-        int heading = document.indexOf("\n## " + section + "\n");
-        if (heading < 0) {
-            return "a section that is not in " + DOCUMENT;
-        }
-        int start = heading + section.length() + 5;
-        int end = document.indexOf("\n## ", start);
-        String words = document.substring(start, end < 0 ? document.length() : end);
-        words = words.trim().replaceAll("\\s+", " ");
-        return section.startsWith("Promise ") ? words.substring(words.indexOf("`: ") + 3) : words;
+        String words = Document.words(Document.PROMISES, section);
+        int signature = section.startsWith("Promise ") ? words.indexOf("`: ") : -1;
+        return signature < 0 ? words : words.substring(signature + 3);
     }
 }
