@@ -9,8 +9,8 @@ import javax.tools.SimpleJavaFileObject;
 import javax.tools.ToolProvider;
 
 /**
- * What README.md says of the use of the class: its example is compiled as it stands there, each
- * call's answer compared with what stands behind the call.
+ * What README.md says of the use of the class: its example is read from there and compiled, each
+ * call with a comparison of its answer and what stands behind it.
  */
 public final class ReadmeTest {
     private static final String EXAMPLE = "ReadmeExample";
